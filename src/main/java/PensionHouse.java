@@ -895,25 +895,21 @@ public final class PensionHouse {
         private void readDigits() {
             content = 0;
             decimals = 0;
-            readRowOfDigits();
-            int before = at - place;
-            if (byteAt(at) == '.' && isDigit(byteAt(at + 1))) {
+            boolean isPointBehind = false;
+            while (at < end && (isDigit(byteAt(at)) || byteAt(at) == '.' && isDigit(byteAt(at + 1)) && !isPointBehind)) {
+                if (byteAt(at) == '.') {
+                    isPointBehind = true;
+                } else {
+                    content = content * 10 + (byteAt(at) - '0');
+                    decimals += isPointBehind ? 1 : 0;
+                }
                 at++;
-                int point = at;
-                readRowOfDigits();
-                decimals = at - point;
             }
-            if (decimals == 0) {
-                token = before <= 15 ? WHOLE_NUMBER : BAD;
+            int digits = at - place - (isPointBehind ? 1 : 0);
+            if (isPointBehind) {
+                token = digits - decimals <= 9 && decimals <= 6 ? REAL_NUMBER : BAD;
             } else {
-                token = before <= 9 && decimals <= 6 ? REAL_NUMBER : BAD;
-            }
-        }
-
-        private void readRowOfDigits() {
-            while (at < end && isDigit(byteAt(at))) {
-                content = content * 10 + (byteAt(at) - '0');
-                at++;
+                token = digits <= 15 ? WHOLE_NUMBER : BAD;
             }
         }
 
@@ -1037,6 +1033,7 @@ public final class PensionHouse {
             counterSums = new int[DEEPEST];
         }
 
+        /** Reads what THE TAPE was into text. */
         void parse() {
             text.clear();
             fault = 0;
@@ -1044,25 +1041,21 @@ public final class PensionHouse {
             counters = 0;
             tape.next();
             for (int i = 0; i <= Text.RULES && fault == 0 && tape.token != Tape.END; i++) {
-                readRule();
-            }
-        }
-
-        private void readRule() {
-            if (tape.token == Tape.RULE && text.rules == Text.RULES) {
-                refuse(MUCH);
-            }
-            take(Tape.RULE);
-            long name = tape.content;
-            if (tape.token == Tape.NAME && text.ruleNamed(name) != NONE) {
-                refuse(TOLD_ALREADY);
-            }
-            take(Tape.NAME);
-            take('=');
-            int root = readE(0);
-            take(';');
-            if (fault == 0) {
-                text.addRule(name, root);
+                if (tape.token == Tape.RULE && text.rules == Text.RULES) {
+                    refuse(MUCH);
+                }
+                take(Tape.RULE);
+                long name = tape.content;
+                if (tape.token == Tape.NAME && text.ruleNamed(name) != NONE) {
+                    refuse(TOLD_ALREADY);
+                }
+                take(Tape.NAME);
+                take('=');
+                int root = readE(0);
+                take(';');
+                if (fault == 0) {
+                    text.addRule(name, root);
+                }
             }
         }
 
@@ -1210,7 +1203,12 @@ public final class PensionHouse {
                 case Tape.DAY:
                     return part(Tape.DAY, 0);
                 case Tape.NAME:
-                    return readName();
+                    int sum = sumOf(tape.content);
+                    int rule = text.ruleNamed(tape.content);
+                    if (sum != NONE) {
+                        return part(Tape.COUNTER, sum);
+                    }
+                    return rule != NONE ? part(Tape.FIGURE, rule) : part(Tape.FACT, tape.content);
                 case Tape.SUM:
                     return readSum(depth);
                 case '(':
@@ -1223,15 +1221,14 @@ public final class PensionHouse {
             }
         }
 
-        private int readName() {
-            long name = tape.content;
+        /** The sum around with this NAME, the innermost; NONE: there is none. */
+        private int sumOf(long name) {
             for (int i = counters - 1; i >= 0; i--) {
                 if (counterNames[i] == name) {
-                    return part(Tape.COUNTER, counterSums[i]);
+                    return counterSums[i];
                 }
             }
-            int rule = text.ruleNamed(name);
-            return rule == NONE ? part(Tape.FACT, name) : part(Tape.FIGURE, rule);
+            return NONE;
         }
 
         private int readSum(int depth) {
@@ -1412,10 +1409,11 @@ public final class PensionHouse {
         private void turn() {
             int part = frameParts[frames - 1];
             int kind = text.kinds[part];
-            int stage = frameStages[frames - 1]++;
+            int stage = frameStages[frames - 1];
             if (stage == 0 && !spend(workOf(kind))) {
                 return;
             }
+            frameStages[frames - 1]++;
             switch (kind) {
                 case Tape.WHOLE_NUMBER:
                     pushNumber(Value.WHOLE, text.contents[part]);
@@ -1512,7 +1510,8 @@ public final class PensionHouse {
                 enterInner(part, 1);
                 return;
             }
-            if (text.kinds[part] == Tape.FIGURE) {
+            // at stage 0 there was no WORK left to want the rule: it was not begun
+            if (text.kinds[part] == Tape.FIGURE && frameStages[frame] > 0) {
                 file.endRule((int) text.contents[part], pile[0]);
             }
             leave();
@@ -1901,6 +1900,7 @@ public final class PensionHouse {
                     x = Real.root(x);
                     break;
                 default:
+                    break;
             }
             value.setNumber(Value.REAL, x);
             return 0;
@@ -1928,7 +1928,9 @@ public final class PensionHouse {
                 return Case.NO_INDEX;
             }
             int n = (int) many.bits[0];
-            System.arraycopy(row.bits, row.size - n, row.bits, 0, n);
+            for (int i = 0; i < n; i++) {
+                row.bits[i] = row.bits[row.size - n + i];
+            }
             row.size = n;
             return 0;
         }
