@@ -1621,7 +1621,6 @@ public final class PensionHouse {
                 leave();
             } else if (spend(1)) {
                 height = base + 3;
-                frameStages[frames - 1] = 3;
                 enterInner(part, 2);
             }
         }

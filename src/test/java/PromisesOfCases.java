@@ -276,6 +276,10 @@ public final class PromisesOfCases {
         isWhole("nan=nan", 0);
         isWhole("nan!=nan", 1);
         isWhole("nan<1", 0);
+        isWhole("1<nan", 0);
+        isWhole("1<=nan", 0);
+        isWhole("nan=inf", 0);
+        isWhole("1!=nan", 1);
         isWhole("nan<=nan", 0);
         isWhole("nan!=1", 1);
         isWhole("-inf<least", 1);
@@ -353,6 +357,9 @@ public final class PromisesOfCases {
         isRow("join(zeros(6),zeros(6))", 2, 0, 0, 0, 0, 0, 0, 0, 0, 0, 0, 0, 0);
         fails("join(kids,kin)", 5);
         fails("join(wives,kids)", 5);
+        fails("join(kids,last(wives,1))", 5);
+        fails("join(kids,with(kin,0,wives[0]))", 5);
+        fails("join(wives,last(with(kin,1,kids[0]),2))", 5);
         fails("join(ints,longs)", 5);
         fails("join(empty,last(longs,0))", 5);
         fails("join(kin,ints)", 5);
@@ -368,6 +375,7 @@ public final class PromisesOfCases {
         isRow("with(kin,1,wives[1])", 5, 0, 3, 1);
         isRow("with(kids,1,kids[0])", 6, 2, 2);
         fails("with(kids,1,wives[1])", 5);
+        fails("with(kids,1,kin[2])", 5);
         fails("with(kids,2,wives[1])", 3);
         fails("with(wives,0,kids[1])", 5);
         fails("with(kids,-1,kids[0])", 3);
@@ -428,6 +436,7 @@ public final class PromisesOfCases {
         isWhole("sum day1 from 1 to 1 of day1", 1);
         isRow("kids", 6, 2, 0);
         Desk x = house();
+        x.edition(0, 0, "rule a=sum pay from 1 to 2 of sum n from 1 to 2 of pay;");
         x.whole(100);
         x.fact("pay");
         due("texts", x.edition(0, 0, "rule pay=pay+1;rule b=pay;rule c=d;rule d=5;rule e=sum pay from pay to pay of pay;rule f=d;"), 6);
@@ -570,7 +579,7 @@ public final class PromisesOfCases {
         due("19 k line", x.house.told(0), NONE);
         due("19 k asked", x.house.told(3), 1);
         // a rule that there is no WORK left for was not begun: no STEP
-        due("late", x.edition(0, 0, "rule a=1;rule b=1<sum n from 1 to 198 of n+a;rule c=-sum n from 1 to 198 of n;rule d=--c;"), 4);
+        due("late", x.edition(0, 0, "rule a=1;rule b=sum n from 1 to 198 of n+a;rule c=-sum n from 1 to 198 of n;rule d=--c;"), 4);
         due("b", x.figure("b"), 7);
         due("20 b", x.house.step(0), 107);
         due("20 no a", x.house.step(1), UNKNOWN);

@@ -264,6 +264,25 @@ public final class PromisesOfTexts {
         bad("rule a=" + times("try 1 else ", 19) + "1;", 4, 7 + 11 * 18 + 4);
         bad("rule a=" + times("if 1 then 1 else ", 19) + "1;", 4, 7 + 17 * 18 + 3);
         good("rule a=" + times("if 1 then 1 else ", 18) + "1;", 1);
+        bad("rule a=" + times("if 1 then ", 19) + "1" + times(" else 1", 19) + ";", 4, 7 + 10 * 18 + 3);
+        bad("rule a=" + times("-", 17) + "(if 1 then 1 else 1);", 4, 28);
+        good("rule a=" + times("-", 15) + "(if 1 then 1 else 1);", 1);
+        bad("rule a=" + times("-", 16) + "(if 1 then 1 else 1);", 4, 27);
+        for (String inner : new String[] {"if 1 then # else 1", "if 1 then 1 else #", "if # then 1 else 1", "try # else 1", "try 1 else #",
+            "1<#", "1*#", "1-#", "#+1"}) {
+            // E 0, inner's E 1, its U 2
+            int at = inner.startsWith("if") || inner.startsWith("try") ? 1 : 0;
+            String text = "rule a=" + inner.replace("#", times("-", 18 - at) + "1") + ";";
+            good(text, 1);
+            String deeper = "rule a=" + inner.replace("#", times("-", 19 - at) + "1") + ";";
+            bad(deeper, 4, deeper.lastIndexOf("-1") + 1);
+        }
+        for (String inner : new String[] {"sum n from # to 1 of 1", "sum n from 1 to # of 1", "max(#,1)", "max(1,#)", "(#)", "x[#]", "with(1,1,#)"}) {
+            // U 1, E 2, U 3
+            good("rule a=" + inner.replace("#", times("-", 16) + "1") + ";", 1);
+            String deeper = "rule a=" + inner.replace("#", times("-", 17) + "1") + ";";
+            bad(deeper, 4, deeper.lastIndexOf("-1") + 1);
+        }
         // sum: its U, and its from and to, lie within its U
         good("rule a=" + times("sum n from 1 to 1 of ", 17) + "1;", 1);
         good("rule a=" + times("-", 16) + "sum n from 1 to 1 of 1;", 1);
