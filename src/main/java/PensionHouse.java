@@ -792,8 +792,9 @@ public final class PensionHouse {
         static final int OF = 142, REAL = 143, ROOT = 144, RULE = 145, SUM = 146, THEN = 147, TO = 148;
         static final int TRY = 149, WHOLE = 150, WITH = 151, ZEROS = 152;
 
-        private static final String WORDS = "best born ceil day else floor from if join last len max min near of"
-                + " real root rule sum then to try whole with zeros ";
+        /** In the order of their numbers above; one literal, as LANGUAGE.md joins no texts by +. */
+        private static final String WORDS =
+            "best born ceil day else floor from if join last len max min near of real root rule sum then to try whole with zeros ";
         private static final String SIGNS = ";=+-*/%()[],<!";
 
         final byte[] bytes;
@@ -1583,7 +1584,7 @@ public final class PensionHouse {
             }
         }
 
-        /** On the pile: from, to, the sum so far, and what the U came to. */
+        /** On the pile: from, to, the sum so far, and what the U came to; from stage 3 on a U has ended. */
         private void addUp(int part, int stage) {
             if (stage < 2) {
                 enterInner(part, stage);
