@@ -3,12 +3,14 @@ final class Desk {
     final PensionHouse house = new PensionHouse();
     static int asked = 0;
     static int wrong = 0;
+    /** Put ahead of what is printed. */
+    static String sentence = "";
 
     static void due(String call, long got, long want) {
         asked++;
         if (got != want) {
             wrong++;
-            System.out.println(call + " answered " + got + ", due is " + want);
+            System.out.println(sentence + call + " answered " + got + ", due is " + want);
         }
     }
 
@@ -39,9 +41,24 @@ final class Desk {
         return house.edition(scheme, first);
     }
 
+    int known(int member, String name, int day, int asOf) {
+        feed(name);
+        return house.known(member, day, asOf);
+    }
+
     int figure(String rule) {
         feed(rule);
         return house.figure(0, 0, 10, house.count(6));
+    }
+
+    int figure(int member, int scheme, String rule, int day, int asOf) {
+        feed(rule);
+        return house.figure(member, scheme, day, asOf);
+    }
+
+    int trial(int scheme, int day, int asOf, String text) {
+        feed(text);
+        return house.trial(scheme, day, asOf);
     }
 
     void whole(long bits) {
