@@ -49,6 +49,15 @@ public final class SentencesOfTheDesk {
         return x;
     }
 
+    /** As the text that was read latest has a FAULT of kind 1, a call that reads one with it changes nothing. */
+    static Desk livedFaulty() {
+        Desk x = lived();
+        x.house.cut(0);
+        x.edition(0, 80, "?");
+        x.feed("f");
+        return x;
+    }
+
     static Desk livedWithKin() {
         Desk x = lived();
         x.row(6, 0, -1);
