@@ -1079,6 +1079,21 @@ public final class SentencesOfCases {
         due("step", x.house.step(0), 201);
     }
 
+    static void promise19_nothingIsLeftOfTheOneBefore() {
+        Desk x = comes("rule b=1/0;rule a=(try b else most)+b;rule c=5;rule d=c/0;", 6, 0, 1 + 151 + 3 + 1 + 1, 2, 1, 1);
+        due("c", x.figure("c"), 0);
+        int[] want = {NONE, 1, 1, 0, 0};
+        for (int what = 0; what < 5; what++) {
+            due("told " + what, x.house.told(what), want[what]);
+        }
+        steps(x, 200);
+        due("d", x.figure("d"), 6);
+        due("d's LINE", x.house.told(0), 3);
+        steps(x, 200, 306);
+        due("c again", x.figure("c"), 0);
+        due("no LINE", x.house.told(0), NONE);
+    }
+
     static void promise19_outside() {
         for (int what : new int[] {-1, 5, 6, MIN, MAX}) {
             Sentences.refuses(SentencesOfTheDesk::lived, "told " + what, OUTSIDE, x -> x.told(what));
