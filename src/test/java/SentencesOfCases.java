@@ -419,6 +419,13 @@ public final class SentencesOfCases {
         isReal("min(2,3.0)", 2.0);
         isReal("max(3,2.0)", 3.0);
         isReal("max(odd,0.0)", 9007199254740992.0);
+        isReal("min(0.5,2)", 0.5);
+        isReal("max(0.5,2)", 2.0);
+        isReal("min(2,0.5)", 0.5);
+        isReal("max(2,0.5)", 2.0);
+        isReal("min(-0.5,-2)", -2.0);
+        isReal("max(0.0,odd)", 9007199254740992.0);
+        isReal("min(inf,most)", 9223372036854775807.0);
     }
 
     static void terms3_wholeDivisionIsCutOffTowardZero() {
