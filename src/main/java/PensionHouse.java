@@ -1561,18 +1561,18 @@ public final class PensionHouse {
         }
 
         private void decide(int part, int stage) {
-            if (stage == 0) {
+            int base = frameHeights[frames - 1];
+            if (base < 0 || base >= PILE) {
+                fail(Case.OVERWORK);
+            } else if (stage == 0) {
                 enterInner(part, 0);
-            } else if (stage == 1) {
-                height = frameHeights[frames - 1];
-                Value condition = pile[height];
-                if (condition.sort == Value.WHOLE) {
-                    enterInner(part, condition.bits[0] != 0 ? 1 : 2);
-                } else {
-                    fail(Case.WRONG_SORT);
-                }
-            } else {
+            } else if (stage > 1) {
                 leave();
+            } else if (pile[base].sort != Value.WHOLE) {
+                fail(Case.WRONG_SORT);
+            } else {
+                height = base;
+                enterInner(part, pile[base].bits[0] != 0 ? 1 : 2);
             }
         }
 
@@ -1591,7 +1591,7 @@ public final class PensionHouse {
                 return;
             }
             int base = frameHeights[frames - 1];
-            if (base + 3 >= PILE) {
+            if (base < 0 || base + 3 >= PILE) {
                 fail(Case.OVERWORK);
                 return;
             }
